@@ -1,0 +1,67 @@
+/** Promise 8: mode. */
+public final class Promise8ModeTest {
+    private static final Checks CHECKS = new Checks();
+
+    private Promise8ModeTest() {
+    }
+
+    public static void main(String[] args) {
+        for (int controller = 0; controller <= 1; controller++) {
+            eachAlone(controller);
+        }
+        noSuchControllers();
+        noneOfThese();
+        CHECKS.end();
+    }
+
+    private static void eachAlone(int controller) {
+        LinePair pair = new LinePair();
+        modesAre(pair, controller, "0000000");
+        pair.write(controller, 0, Pairs.LEVELS);
+        modesAre(pair, controller, "0100000");
+        pair.write(controller, 0, Pairs.EDGES);
+        modesAre(pair, controller, "0000000");
+        pair.write(controller, 0, Pairs.SPECIAL_MASK_ON);
+        modesAre(pair, controller, "0010000");
+        pair.write(controller, 0, Pairs.SPECIAL_MASK_OFF);
+        pair.write(controller, 0, Pairs.TURNS_AT_ONCE_ON);
+        modesAre(pair, controller, "0000010");
+        pair.write(controller, 0, Pairs.TURNS_AT_ONCE_OFF);
+        pair.write(controller, 0, Pairs.POLL);
+        modesAre(pair, controller, "0000001");
+        pair.read(controller, 0);
+        modesAre(pair, controller, "0000000");
+        Pairs.begin(pair, controller, Pairs.EDGES, Pairs.PLAIN);
+        modesAre(pair, controller, "1000000");
+        Pairs.begin(pair, controller, Pairs.EDGES, Pairs.SPECIAL_NESTING);
+        modesAre(pair, controller, "1001000");
+        Pairs.begin(pair, controller, Pairs.EDGES, Pairs.ENDS_AT_ONCE);
+        modesAre(pair, controller, "1000100");
+        pair.write(controller, 0, 0x10);
+        modesAre(pair, controller, "0000000");
+    }
+
+    private static void modesAre(LinePair pair, int controller, String due) {
+        for (int which = 0; which <= 6; which++) {
+            CHECKS.same("mode(" + controller + ", " + which + ") of " + due,
+                    pair.mode(controller, which), due.charAt(which) == '1');
+            CHECKS.same("the other's mode " + which, pair.mode(1 - controller, which), false);
+        }
+    }
+
+    private static void noSuchControllers() {
+        LinePair pair = Pairs.ready();
+        for (int wrong : new int[] {-1, 2, Integer.MIN_VALUE, Integer.MAX_VALUE}) {
+            CHECKS.noSuchElement(pair, "mode(" + wrong + ", 0)", () -> pair.mode(wrong, 0));
+        }
+        CHECKS.noSuchElement(pair, "mode(2, 7)", () -> pair.mode(2, 7));
+    }
+
+    private static void noneOfThese() {
+        LinePair pair = Pairs.ready();
+        for (int wrong : new int[] {-1, 7, Integer.MIN_VALUE, Integer.MAX_VALUE}) {
+            CHECKS.illegalArgument(pair, "mode(0, " + wrong + ")", () -> pair.mode(0, wrong));
+            CHECKS.illegalArgument(pair, "mode(1, " + wrong + ")", () -> pair.mode(1, wrong));
+        }
+    }
+}
