@@ -1,10 +1,11 @@
 import java.util.ArrayList;
 import java.util.List;
+import java.util.NoSuchElementException;
 import java.util.TreeSet;
 
 /**
  * The document written a second time, for comparison: sets of lines in place of bits, lists in order of
- * priority in place of ranks, and line 2 worked out from the helper. It takes right arguments alone.
+ * priority in place of ranks, and line 2 worked out from the helper.
  */
 final class Model {
     private final Side chief = new Side();
@@ -89,10 +90,28 @@ final class Model {
     }
 
     private Side side(int controller) {
+        if (!List.of(0, 1).contains(controller)) {
+            throw new NoSuchElementException();
+        }
         return controller == 0 ? chief : helper;
     }
 
+    private static void lookAtPort(int port) {
+        if (!List.of(0, 1).contains(port)) {
+            throw new NoSuchElementException();
+        }
+    }
+
+    private static void lookAtNumber(int number, int last) {
+        if (number < 0 || number > last) {
+            throw new IllegalArgumentException();
+        }
+    }
+
     boolean line(int k, boolean up) {
+        if (!List.of(0, 1, 3, 4, 5, 6, 7, 8, 9, 10, 11, 12, 13, 14, 15).contains(k)) {
+            throw new NoSuchElementException();
+        }
         boolean moved = move(side(k / 8), k % 8, up);
         setLine2();
         return moved;
@@ -100,6 +119,8 @@ final class Model {
 
     boolean write(int controller, int port, int word) {
         Side side = side(controller);
+        lookAtPort(port);
+        lookAtNumber(word, 255);
         if (port == 1) {
             writeAtPort1(side, word);
         } else if ((word & 16) != 0) {
@@ -179,6 +200,7 @@ final class Model {
 
     int read(int controller, int port) {
         Side side = side(controller);
+        lookAtPort(port);
         if (port == 1) {
             return bits(side.masked);
         }
@@ -212,16 +234,20 @@ final class Model {
 
     int about(int controller, int what) {
         Side side = side(controller);
+        lookAtNumber(what, 7);
         int[] answers = {bits(side.requested()), bits(side.inService), bits(side.masked), bits(side.up),
             side.order.get(7), side.base, side.awaited.isEmpty() ? 0 : side.awaited.get(0), side.read};
         return answers[what];
     }
 
     boolean mode(int controller, int which) {
-        return side(controller).modes[which];
+        Side side = side(controller);
+        lookAtNumber(which, 6);
+        return side.modes[which];
     }
 
     int count(int what) {
+        lookAtNumber(what, 2);
         return counts[what];
     }
 

@@ -1,9 +1,10 @@
-/** Long mixed runs of calls, every answer of which is compared with the model's. */
+/** Long mixed runs of calls, up to the last that an object is used for; every answer is compared with the model's. */
 public final class ModelTest {
     private static final int RUNS = 4000;
-    private static final int CALLS_OF_AN_OBJECT = 512;
     private static final int CALLS_OF_A_LOOK = 35;
     private static final int CALLS_BETWEEN_LOOKS = 6;
+    private static final int[] FAR_NUMBERS =
+            {Integer.MIN_VALUE, Integer.MAX_VALUE, -1, 2, 3, 7, 8, 16, 255, 256, 257, 273};
     private static final Checks CHECKS = new Checks();
 
     // A fixed seed: every run of the test makes the same calls.
@@ -14,59 +15,51 @@ public final class ModelTest {
 
     public static void main(String[] args) {
         for (int run = 0; run < RUNS; run++) {
-            runOnce(run);
+            runOnce(new Comparison(CHECKS, "run " + run));
         }
         CHECKS.end();
     }
 
-    private static void runOnce(int run) {
-        LinePair pair = new LinePair();
-        Model model = new Model();
-        int calls = 0;
+    private static void runOnce(Comparison both) {
         if (below(4) != 0) {
-            calls += beginBoth(pair, model);
+            beginBoth(both);
         }
-        while (calls + CALLS_BETWEEN_LOOKS + CALLS_OF_A_LOOK <= CALLS_OF_AN_OBJECT) {
+        while (both.callsLeft() >= CALLS_BETWEEN_LOOKS + CALLS_OF_A_LOOK) {
             for (int i = 0; i < CALLS_BETWEEN_LOOKS; i++) {
-                call(run, pair, model);
+                call(both);
             }
-            look(run, pair, model);
-            calls += CALLS_BETWEEN_LOOKS + CALLS_OF_A_LOOK;
+            both.look();
+        }
+        while (both.callsLeft() > 0) {
+            call(both);
         }
     }
 
-    private static int beginBoth(LinePair pair, Model model) {
-        int calls = 0;
+    private static void beginBoth(Comparison both) {
         for (int controller = 0; controller <= 1; controller++) {
-            write(pair, model, controller, 0, 0x11 | below(2) << 3);
-            write(pair, model, controller, 1, below(256));
-            write(pair, model, controller, 1, below(256));
-            write(pair, model, controller, 1, below(256));
-            calls += 4;
+            both.write(controller, 0, 0x11 | below(2) << 3);
+            for (int word = 2; word <= 4; word++) {
+                both.write(controller, 1, below(256));
+            }
         }
-        return calls;
     }
 
-    private static void call(int run, LinePair pair, Model model) {
-        String name = "run " + run;
-        int kind = below(20);
-        if (kind < 9) {
-            int k = below(16);
-            boolean up = below(3) != 0;
-            if (k != 2) {
-                CHECKS.same(name + " line(" + k + ", " + up + ")", pair.line(k, up), model.line(k, up));
-            }
-        } else if (kind < 12) {
-            CHECKS.same(name + " take()", pair.take(), model.take());
-        } else if (kind < 14) {
-            int controller = below(2);
-            int port = below(5) / 4;
-            CHECKS.same(name + " read(" + controller + ", " + port + ")",
-                    pair.read(controller, port), model.read(controller, port));
-        } else if (kind < 16) {
-            write(pair, model, below(2), 1, below(256) & below(256));
+    private static void call(Comparison both) {
+        int kind = below(42);
+        if (kind < 18) {
+            both.line(below(16), below(3) != 0);
+        } else if (kind < 24) {
+            both.take();
+        } else if (kind < 28) {
+            both.read(below(2), below(5) / 4);
+        } else if (kind < 32) {
+            both.write(below(2), 1, below(256) & below(256));
+        } else if (kind < 40) {
+            both.write(below(2), 0, wordForPort0());
+        } else if (kind == 40) {
+            ask(both);
         } else {
-            write(pair, model, below(2), 0, wordForPort0());
+            callWithFarNumbers(both);
         }
     }
 
@@ -76,25 +69,29 @@ public final class ModelTest {
         return below(12) == 0 ? word : word & ~16;
     }
 
-    private static void write(LinePair pair, Model model, int controller, int port, int word) {
-        CHECKS.same("write(" + controller + ", " + port + ", " + word + ")",
-                pair.write(controller, port, word), model.write(controller, port, word));
+    private static void ask(Comparison both) {
+        switch (below(4)) {
+            case 0 -> both.delivers(below(2));
+            case 1 -> both.about(below(2), below(8));
+            case 2 -> both.mode(below(2), below(7));
+            default -> both.count(below(3));
+        }
     }
 
-    private static void look(int run, LinePair pair, Model model) {
-        for (int controller = 0; controller <= 1; controller++) {
-            String name = "run " + run + " controller " + controller;
-            CHECKS.same(name + " delivers", pair.delivers(controller), model.delivers(controller));
-            for (int what = 0; what <= 7; what++) {
-                CHECKS.same(name + " about " + what, pair.about(controller, what), model.about(controller, what));
-            }
-            for (int which = 0; which <= 6; which++) {
-                CHECKS.same(name + " mode " + which, pair.mode(controller, which), model.mode(controller, which));
-            }
+    private static void callWithFarNumbers(Comparison both) {
+        switch (below(7)) {
+            case 0 -> both.line(farOr(below(16)), below(2) == 0);
+            case 1 -> both.write(farOr(below(2)), farOr(below(2)), farOr(below(256)));
+            case 2 -> both.read(farOr(below(2)), farOr(below(2)));
+            case 3 -> both.delivers(farOr(below(2)));
+            case 4 -> both.about(farOr(below(2)), farOr(below(8)));
+            case 5 -> both.mode(farOr(below(2)), farOr(below(7)));
+            default -> both.count(farOr(below(3)));
         }
-        for (int what = 0; what <= 2; what++) {
-            CHECKS.same("run " + run + " count " + what, pair.count(what), model.count(what));
-        }
+    }
+
+    private static int farOr(int number) {
+        return below(2) == 0 ? number : FAR_NUMBERS[below(FAR_NUMBERS.length)];
     }
 
     private static int below(int bound) {

@@ -66,6 +66,52 @@ final class Pairs {
         }
     }
 
+    /** Both ready and by levels, so that a line can be requested and in service at once. */
+    static LinePair byLevels() {
+        return ready(LEVELS, PLAIN, LEVELS, PLAIN);
+    }
+
+    /** The chief's line 2 is moved by the helper's line 0, of a ready helper with nothing in service. */
+    static boolean move(LinePair pair, int controller, int line, boolean up) {
+        boolean own = controller == HELPER || line != 2;
+        return pair.line(own ? 8 * controller + line : 8, up);
+    }
+
+    static int poll(LinePair pair, int controller) {
+        pair.write(controller, 0, POLL);
+        return pair.read(controller, 0);
+    }
+
+    /** The line comes up, is taken by a poll, and goes down again: the other controller takes nothing. */
+    static void serve(LinePair pair, int controller, int line) {
+        move(pair, controller, line, true);
+        poll(pair, controller);
+        move(pair, controller, line, false);
+    }
+
+    /** From 0, the highest priority, to 7. */
+    static int rank(int line, int lowest) {
+        return Math.floorMod(line - lowest - 1, 8);
+    }
+
+    /** What one controller shows, without the other and the counts. */
+    static String stateOf(LinePair pair, int controller) {
+        return stateOf(pair).split("; ")[controller];
+    }
+
+    /** Answers that also depend on what cannot be asked for, such as whether a fourth word follows; in 55 calls. */
+    static String laterAnswersOf(LinePair pair) {
+        StringBuilder text = new StringBuilder();
+        for (int controller = CHIEF; controller <= HELPER; controller++) {
+            text.append(pair.read(controller, 1)).append(' ').append(pair.read(controller, 0)).append(' ');
+            text.append(pair.read(controller, 0)).append(' ').append(pair.take()).append(' ');
+            for (int word = 2; word <= 4; word++) {
+                text.append(pair.write(controller, 1, 0x12)).append(' ').append(pair.about(controller, 6)).append(' ');
+            }
+        }
+        return text.append(stateOf(pair)).toString();
+    }
+
     /** All that can be asked without a change, in 35 calls. */
     static String stateOf(LinePair pair) {
         StringBuilder text = new StringBuilder();

@@ -13,11 +13,13 @@ public final class Promise1NewObjectTest {
     }
 
     private static void stateAtFirst() {
+        CHECKS.sentence("Both not ready, all lines down.");
         CHECKS.same("a new object", Pairs.stateOf(new LinePair()),
                 "chief 0 0 0 0 7 0 0 0 0000000 delivers -1; helper 0 0 0 0 7 0 0 0 0000000 delivers -1; count 0 0 0");
     }
 
     private static void answersAtFirst() {
+        CHECKS.sentence("Both not ready, all lines down. (the first answers)");
         LinePair pair = new LinePair();
         for (int controller = 0; controller <= 1; controller++) {
             CHECKS.same("read at port 0", pair.read(controller, 0), 0);
@@ -32,6 +34,7 @@ public final class Promise1NewObjectTest {
     }
 
     private static void objectsShareNothing() {
+        CHECKS.sentence("`LinePair()` (each object for itself)");
         LinePair used = Pairs.ready();
         Pairs.raise(used, 0, 9);
         used.take();

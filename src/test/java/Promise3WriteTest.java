@@ -7,6 +7,7 @@ public final class Promise3WriteTest {
 
     public static void main(String[] args) {
         answersWhetherTheChiefDelivers();
+        answersWhetherTheChiefDeliversBehindEveryWord();
         wordsAwaited();
         aBeginningForgets();
         aBeginningAmongAwaitedWords();
@@ -29,6 +30,7 @@ public final class Promise3WriteTest {
     }
 
     private static void answersWhetherTheChiefDelivers() {
+        CHECKS.sentence("A word is written: whether the chief delivers then.");
         LinePair pair = Pairs.ready();
         CHECKS.same("nothing to deliver", pair.write(Pairs.CHIEF, 0, Pairs.NOTHING), false);
         Pairs.raise(pair, 12);
@@ -39,7 +41,27 @@ public final class Promise3WriteTest {
         CHECKS.same("line 2 masked", pair.write(Pairs.CHIEF, 1, 4), false);
     }
 
+    /** In two states: the chief delivers a line of its own, or is blocked while the helper delivers one. */
+    private static void answersWhetherTheChiefDeliversBehindEveryWord() {
+        CHECKS.sentence("whether the chief delivers then (behind the word, not before it)");
+        int[] answers = {0, 0};
+        for (int word = 0; word <= 255; word++) {
+            for (int ways = 0; ways <= 7; ways++) {
+                LinePair pair = Pairs.byLevels();
+                Pairs.serve(pair, Pairs.CHIEF, 4);
+                Pairs.serve(pair, Pairs.HELPER, 4);
+                pair.line(8 * (ways / 4) + 6, true);
+                boolean delivers = pair.write(ways % 2, ways / 2 % 2, word);
+                CHECKS.same("write(" + ways % 2 + ", " + ways / 2 % 2 + ", " + word + ")",
+                        delivers, pair.delivers(0) != LinePair.NONE);
+                answers[delivers ? 1 : 0]++;
+            }
+        }
+        CHECKS.same("both answers came", answers[0] > 0 && answers[1] > 0, true);
+    }
+
     private static void wordsAwaited() {
+        CHECKS.sentence("Then words at port 1 are awaited");
         for (int controller = 0; controller <= 1; controller++) {
             for (int first = 0x10; first <= 0x11; first++) {
                 wordsAwaited(controller, first);
@@ -74,6 +96,7 @@ public final class Promise3WriteTest {
     }
 
     private static void aBeginningForgets() {
+        CHECKS.sentence("PORT 0 with bit 4: it BEGINS");
         LinePair pair = Pairs.ready(Pairs.LEVELS, Pairs.SPECIAL_NESTING, Pairs.EDGES, Pairs.PLAIN);
         Pairs.raise(pair, 1, 4);
         pair.take();
@@ -93,6 +116,7 @@ public final class Promise3WriteTest {
     }
 
     private static void aBeginningAmongAwaitedWords() {
+        CHECKS.sentence("Then words at port 1 are awaited (of the newer beginning)");
         LinePair pair = new LinePair();
         pair.write(Pairs.CHIEF, 0, 0x11);
         pair.write(Pairs.CHIEF, 1, 0x40);
@@ -106,6 +130,7 @@ public final class Promise3WriteTest {
     }
 
     private static void wordsAtPort0WhileWordsAreAwaited() {
+        CHECKS.sentence("PORT 0 without bit 4 (while words are awaited)");
         LinePair pair = new LinePair();
         pair.write(Pairs.HELPER, 0, 0x11);
         pair.write(Pairs.HELPER, 0, Pairs.TURN + 5);
@@ -120,6 +145,7 @@ public final class Promise3WriteTest {
     }
 
     private static void beginningByLevelsKeepsRequests() {
+        CHECKS.sentence("it is by levels if the word has bit 3, else by edges");
         LinePair pair = new LinePair();
         Pairs.raise(pair, 6);
         Pairs.begin(pair, Pairs.CHIEF, Pairs.EDGES, Pairs.PLAIN);
@@ -131,6 +157,7 @@ public final class Promise3WriteTest {
     }
 
     private static void aBeginningOfTheHelperLowersLine2() {
+        CHECKS.sentence("it is up while the helper DELIVERS (not from a beginning on)");
         LinePair pair = Pairs.ready(Pairs.EDGES, Pairs.PLAIN, 0x18, 0);
         Pairs.raise(pair, 8);
         CHECKS.same("before", pair.delivers(0), 2);
@@ -142,6 +169,7 @@ public final class Promise3WriteTest {
     }
 
     private static void aBeginningOfTheChiefForgetsTheEdgeOfLine2() {
+        CHECKS.sentence("nothing is [...] requested by an edge (line 2 neither)");
         LinePair pair = Pairs.ready();
         Pairs.raise(pair, 9);
         Pairs.begin(pair, Pairs.CHIEF, Pairs.EDGES, Pairs.PLAIN);
@@ -152,6 +180,7 @@ public final class Promise3WriteTest {
     }
 
     private static void fourthWord() {
+        CHECKS.sentence("the fourth, with bit 1 ends at once, with bit 4 special nesting");
         for (int controller = 0; controller <= 1; controller++) {
             for (int word = 0; word <= 255; word++) {
                 LinePair pair = new LinePair();
@@ -164,6 +193,7 @@ public final class Promise3WriteTest {
     }
 
     private static void masks() {
+        CHECKS.sentence("PORT 1 else (also when it never began): bit k tells whether line k is masked.");
         LinePair never = new LinePair();
         never.write(Pairs.HELPER, 1, 0xA5);
         CHECKS.same("masks of one that never began", never.about(1, 2), 0xA5);
@@ -188,6 +218,7 @@ public final class Promise3WriteTest {
 
     /** Each of the eight orders, naming line 5, which is in service but not the highest there. */
     private static void ordersDoNothingElse() {
+        CHECKS.sentence("PORT 0 without bits 4 and 3: by its three upper bits");
         int[] inService = {0x32, 0x30, 0x32, 0x12, 0x32, 0x30, 0x32, 0x12};
         int[] lowest = {7, 7, 7, 7, 7, 1, 5, 5};
         for (int order = 0; order <= 7; order++) {
@@ -205,6 +236,8 @@ public final class Promise3WriteTest {
     }
 
     private static void ends() {
+        CHECKS.sentence("1 ENDS the line in service with the highest priority [...], "
+                + "3 ends line l (if it is in service)");
         LinePair pair = threeInService();
         pair.write(Pairs.CHIEF, 0, Pairs.END_HIGHEST + 4);
         CHECKS.same("the highest ended", pair.about(0, 1), 0x30);
@@ -222,6 +255,7 @@ public final class Promise3WriteTest {
     }
 
     private static void endsWithSpecialMask() {
+        CHECKS.sentence("(with special mask: of those that are not masked)");
         LinePair pair = threeInService();
         pair.write(Pairs.CHIEF, 1, 0x02);
         pair.write(Pairs.CHIEF, 0, Pairs.SPECIAL_MASK_ON);
@@ -243,6 +277,7 @@ public final class Promise3WriteTest {
     }
 
     private static void turns() {
+        CHECKS.sentence("6 l becomes the lowest");
         for (int lowest = 0; lowest <= 7; lowest++) {
             LinePair pair = Pairs.ready();
             pair.write(Pairs.HELPER, 0, Pairs.TURN + lowest);
@@ -258,6 +293,7 @@ public final class Promise3WriteTest {
     }
 
     private static void endsAndTurns() {
+        CHECKS.sentence("5, 7 likewise, and the one that 5 ended, or l, becomes the lowest (5: if there is one)");
         LinePair pair = threeInService();
         pair.write(Pairs.CHIEF, 0, Pairs.END_HIGHEST_AND_TURN + 6);
         CHECKS.same("5 ended", pair.about(0, 1), 0x30);
@@ -275,6 +311,7 @@ public final class Promise3WriteTest {
     }
 
     private static void turnsAtOnce() {
+        CHECKS.sentence("4, 0 turns at once is on, off");
         LinePair pair = Pairs.ready();
         pair.write(Pairs.HELPER, 0, Pairs.TURNS_AT_ONCE_ON + 3);
         CHECKS.same("on", pair.mode(1, 5), true);
@@ -286,6 +323,7 @@ public final class Promise3WriteTest {
 
     /** Every word without bit 4 and with bit 3, from both states of each thing that it can set. */
     private static void choices() {
+        CHECKS.sentence("PORT 0 without bit 4, with bit 3");
         for (int word = 0; word <= 255; word++) {
             if ((word & 0x18) == 0x08) {
                 choice(word, 0, Pairs.SPECIAL_MASK_OFF | Pairs.READ_REQUESTED);
@@ -308,20 +346,24 @@ public final class Promise3WriteTest {
     }
 
     private static void noSuchPlaces() {
-        LinePair pair = threeInService();
+        CHECKS.sentence("NoSuchElementException: controller or port.");
         for (int wrong : new int[] {-1, 2, Integer.MIN_VALUE, Integer.MAX_VALUE}) {
-            CHECKS.noSuchElement(pair, "write(" + wrong + ", 0, 17)", () -> pair.write(wrong, 0, 17));
-            CHECKS.noSuchElement(pair, "write(0, " + wrong + ", 17)", () -> pair.write(0, wrong, 17));
+            CHECKS.noSuchElement("write(" + wrong + ", 0, 17)", Promise3WriteTest::threeInService,
+                    pair -> pair.write(wrong, 0, 17));
+            CHECKS.noSuchElement("write(0, " + wrong + ", 17)", Promise3WriteTest::threeInService,
+                    pair -> pair.write(0, wrong, 17));
         }
-        CHECKS.noSuchElement(pair, "write(2, 0, 256)", () -> pair.write(2, 0, 256));
+        CHECKS.noSuchElement("write(2, 0, 256)", Promise3WriteTest::threeInService, pair -> pair.write(2, 0, 256));
     }
 
     private static void noWords() {
-        LinePair pair = threeInService();
+        CHECKS.sentence("IllegalArgumentException: it is no word.");
         for (int wrong : new int[] {-1, 256, 256 + 17, Integer.MIN_VALUE, Integer.MAX_VALUE}) {
-            CHECKS.illegalArgument(pair, "write(0, 0, " + wrong + ")", () -> pair.write(0, 0, wrong));
+            CHECKS.illegalArgument("write(0, 0, " + wrong + ")", Promise3WriteTest::threeInService,
+                    pair -> pair.write(0, 0, wrong));
         }
-        CHECKS.illegalArgument(pair, "write(1, 1, 256)", () -> pair.write(1, 1, 256));
+        CHECKS.illegalArgument("write(1, 1, 256)", Promise3WriteTest::threeInService, pair -> pair.write(1, 1, 256));
+        LinePair pair = threeInService();
         pair.write(Pairs.CHIEF, 1, 255);
         CHECKS.same("255 is a word", pair.about(0, 2), 255);
         pair.write(Pairs.CHIEF, 1, 0);

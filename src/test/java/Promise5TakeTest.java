@@ -8,8 +8,14 @@ public final class Promise5TakeTest {
     public static void main(String[] args) {
         everyLineOfTheChief();
         everyLineOfTheHelper();
+        everyBase();
         nothingDelivered();
+        nothingDeliveredForEachReason();
+        nothingDeliveredChangesNothing();
         bothTakeOverLine2();
+        theHelperTakesNothingWithoutLine2();
+        line2GoesDown();
+        line2ComesUpAgainForEachTwoLines();
         line2ComesUpAgain();
         line2ComesUpAgainByLevels();
         line2IsTakenAgainWithSpecialNesting();
@@ -20,6 +26,7 @@ public final class Promise5TakeTest {
     }
 
     private static void everyLineOfTheChief() {
+        CHECKS.sentence("The chief takes the line that it delivers: its base + the line");
         for (int line = 0; line <= 7; line++) {
             if (line != 2) {
                 LinePair pair = Pairs.ready();
@@ -33,6 +40,8 @@ public final class Promise5TakeTest {
     }
 
     private static void everyLineOfTheHelper() {
+        CHECKS.sentence("If that line is 2, the helper takes the line that it delivers, too, "
+                + "and the answer is its base + that line");
         for (int line = 0; line <= 7; line++) {
             LinePair pair = Pairs.ready();
             Pairs.raise(pair, 8 + line);
@@ -43,7 +52,111 @@ public final class Promise5TakeTest {
         }
     }
 
+    private static void everyBase() {
+        CHECKS.sentence("its base + the line; [...] its base + that line (every base)");
+        for (int base = 0; base <= 248; base += 8) {
+            int other = 248 - base;
+            for (int line = 0; line <= 7; line++) {
+                LinePair pair = new LinePair();
+                for (int controller = 0; controller <= 1; controller++) {
+                    pair.write(controller, 0, 0x10);
+                    pair.write(controller, 1, controller == Pairs.CHIEF ? base : other);
+                    pair.write(controller, 1, 0);
+                }
+                CHECKS.same("nothing with the base " + base, pair.take(), base + 7);
+                pair.line(8 + line, true);
+                CHECKS.same("the helper's " + line + " with the base " + other, pair.take(), other + line);
+                pair.write(Pairs.CHIEF, 0, Pairs.END_HIGHEST);
+                int own = line == 2 ? 3 : line;
+                pair.line(own, true);
+                CHECKS.same("the chief's " + own + " with the base " + base, pair.take(), base + own);
+            }
+        }
+    }
+
+    private static void nothingDeliveredForEachReason() {
+        CHECKS.sentence("if it delivers none, base + 7 (masked, blocked, or only the helper's)");
+        LinePair masked = Pairs.ready();
+        Pairs.raise(masked, 0, 7, 9);
+        masked.write(Pairs.CHIEF, 1, 255);
+        CHECKS.same("all masked", masked.take(), Pairs.CHIEF_BASE + 7);
+        CHECKS.same("in service", masked.about(0, 1) + masked.about(1, 1), 0);
+        LinePair blocked = Pairs.byLevels();
+        Pairs.raise(blocked, 0);
+        blocked.take();
+        Pairs.raise(blocked, 1, 9);
+        CHECKS.same("all blocked", blocked.take(), Pairs.CHIEF_BASE + 7);
+        LinePair helpers = Pairs.ready();
+        Pairs.begin(helpers, Pairs.CHIEF, 0x10, 0);
+        Pairs.raise(helpers, 12);
+        Pairs.poll(helpers, Pairs.CHIEF);
+        CHECKS.same("the helper's alone", helpers.take(), Pairs.CHIEF_BASE + 7);
+        CHECKS.same("the helper still delivers", helpers.delivers(1), 4);
+    }
+
+    private static void nothingDeliveredChangesNothing() {
+        CHECKS.sentence("if it delivers none, base + 7 (and line 7 is not taken)");
+        LinePair pair = Pairs.ready();
+        Pairs.raise(pair, 7, 15);
+        pair.write(Pairs.CHIEF, 1, 255);
+        String before = Pairs.stateOf(pair).split("; count")[0];
+        pair.take();
+        CHECKS.same("the state", Pairs.stateOf(pair).split("; count")[0], before);
+        CHECKS.same("lines taken", pair.count(0), 0);
+        CHECKS.same("answers with nothing", pair.count(1), 1);
+    }
+
+    private static void theHelperTakesNothingWithoutLine2() {
+        CHECKS.sentence("If that line is 2 (else the helper takes nothing)");
+        for (int line : new int[] {0, 1}) {
+            LinePair pair = Pairs.ready();
+            Pairs.raise(pair, 12, line);
+            CHECKS.same("take", pair.take(), Pairs.CHIEF_BASE + line);
+            CHECKS.same("the helper's in service", pair.about(1, 1), 0);
+            CHECKS.same("the helper delivers", pair.delivers(1), 4);
+            CHECKS.same("line 2 is up and requested", pair.about(0, 3) & pair.about(0, 0) & 4, 4);
+            CHECKS.same("lines taken", pair.count(0), 1);
+        }
+    }
+
+    private static void line2GoesDown() {
+        CHECKS.sentence("the chief's line 2 goes down then (if the helper delivers no more)");
+        for (int first : new int[] {Pairs.EDGES, Pairs.LEVELS}) {
+            for (int line = 0; line <= 7; line++) {
+                LinePair pair = Pairs.ready(first, Pairs.PLAIN, first, Pairs.PLAIN);
+                for (int k = 8 + line; k <= 15; k++) {
+                    Pairs.raise(pair, k);
+                }
+                CHECKS.same("take", pair.take(), Pairs.HELPER_BASE + line);
+                CHECKS.same("the helper delivers", pair.delivers(1), LinePair.NONE);
+                CHECKS.same("line 2 is up", pair.about(0, 3), 0);
+                CHECKS.same("line 2 is requested", pair.about(0, 0), 0);
+            }
+        }
+    }
+
+    /** A helper that ends at once delivers the second line behind the first; the chief ends at once or not. */
+    private static void line2ComesUpAgainForEachTwoLines() {
+        CHECKS.sentence("goes down then, and comes up again if the helper delivers behind that (each two lines)");
+        for (int chiefsFourth : new int[] {Pairs.PLAIN, Pairs.ENDS_AT_ONCE, Pairs.SPECIAL_NESTING}) {
+            for (int one = 0; one <= 7; one++) {
+                for (int other = one + 1; other <= 7; other++) {
+                    LinePair pair = Pairs.ready(Pairs.EDGES, chiefsFourth, Pairs.EDGES, Pairs.ENDS_AT_ONCE);
+                    Pairs.raise(pair, 8 + one, 8 + other);
+                    CHECKS.same("take", pair.take(), Pairs.HELPER_BASE + one);
+                    CHECKS.same("line 2 is up", pair.about(0, 3), 4);
+                    CHECKS.same("line 2 is requested anew", pair.about(0, 0), 4);
+                    boolean blocked = chiefsFourth == Pairs.PLAIN;
+                    CHECKS.same("the second take", pair.take(),
+                            blocked ? Pairs.CHIEF_BASE + 7 : Pairs.HELPER_BASE + other);
+                    CHECKS.same("line 2 at last", pair.about(0, 3), blocked ? 4 : 0);
+                }
+            }
+        }
+    }
+
     private static void nothingDelivered() {
+        CHECKS.sentence("if it delivers none, base + 7");
         CHECKS.same("never begun", new LinePair().take(), 7);
         LinePair pair = Pairs.ready();
         CHECKS.same("nothing requested", pair.take(), Pairs.CHIEF_BASE + 7);
@@ -62,6 +175,7 @@ public final class Promise5TakeTest {
     }
 
     private static void bothTakeOverLine2() {
+        CHECKS.sentence("the chief's line 2 goes down then");
         LinePair pair = Pairs.ready();
         Pairs.raise(pair, 12);
         CHECKS.same("take", pair.take(), Pairs.HELPER_BASE + 4);
@@ -75,6 +189,7 @@ public final class Promise5TakeTest {
     }
 
     private static void line2ComesUpAgain() {
+        CHECKS.sentence("and comes up again if the helper delivers behind that");
         LinePair pair = Pairs.ready(Pairs.EDGES, Pairs.PLAIN, Pairs.EDGES, Pairs.ENDS_AT_ONCE);
         Pairs.raise(pair, 9, 13);
         CHECKS.same("take", pair.take(), Pairs.HELPER_BASE + 1);
@@ -86,6 +201,7 @@ public final class Promise5TakeTest {
     }
 
     private static void line2ComesUpAgainByLevels() {
+        CHECKS.sentence("and comes up again if the helper delivers behind that (by levels)");
         LinePair pair = Pairs.ready(Pairs.LEVELS, Pairs.ENDS_AT_ONCE, Pairs.LEVELS, Pairs.ENDS_AT_ONCE);
         Pairs.raise(pair, 9);
         CHECKS.same("take", pair.take(), Pairs.HELPER_BASE + 1);
@@ -96,6 +212,7 @@ public final class Promise5TakeTest {
     }
 
     private static void line2IsTakenAgainWithSpecialNesting() {
+        CHECKS.sentence("with SPECIAL NESTING the chief's line 2 does not block itself");
         LinePair pair = Pairs.ready(Pairs.EDGES, Pairs.SPECIAL_NESTING, Pairs.EDGES, Pairs.PLAIN);
         Pairs.raise(pair, 12);
         pair.take();
@@ -106,6 +223,7 @@ public final class Promise5TakeTest {
     }
 
     private static void endsAtOnce() {
+        CHECKS.sentence("but with ENDS AT ONCE it does not");
         LinePair pair = Pairs.ready(Pairs.EDGES, Pairs.ENDS_AT_ONCE, Pairs.EDGES, Pairs.PLAIN);
         Pairs.raise(pair, 4, 1, 6);
         CHECKS.same("first", pair.take(), Pairs.CHIEF_BASE + 1);
@@ -117,6 +235,7 @@ public final class Promise5TakeTest {
     }
 
     private static void endsAndTurnsAtOnce() {
+        CHECKS.sentence("and then, with TURNS AT ONCE, it becomes the lowest");
         LinePair pair = Pairs.ready(Pairs.LEVELS, Pairs.ENDS_AT_ONCE, Pairs.EDGES, Pairs.PLAIN);
         pair.write(Pairs.CHIEF, 0, Pairs.TURNS_AT_ONCE_ON);
         Pairs.raise(pair, 1, 4, 6);
@@ -130,6 +249,7 @@ public final class Promise5TakeTest {
     }
 
     private static void turnsAtOnceAlone() {
+        CHECKS.sentence("with ENDS AT ONCE [...] and then, with TURNS AT ONCE (not without ENDS AT ONCE)");
         LinePair pair = Pairs.ready();
         pair.write(Pairs.CHIEF, 0, Pairs.TURNS_AT_ONCE_ON);
         Pairs.raise(pair, 4);

@@ -7,6 +7,8 @@ public final class Promise6DeliversTest {
 
     public static void main(String[] args) {
         highestPriority();
+        eachLine();
+        none();
         notReady();
         blocked();
         blockedByTurnedPriorities();
@@ -20,6 +22,7 @@ public final class Promise6DeliversTest {
     }
 
     private static void highestPriority() {
+        CHECKS.sentence("The line that a controller delivers");
         LinePair pair = Pairs.ready();
         CHECKS.same("nothing", pair.delivers(0), LinePair.NONE);
         Pairs.raise(pair, 7, 5, 0);
@@ -32,7 +35,43 @@ public final class Promise6DeliversTest {
         CHECKS.same("turned", pair.delivers(0), 7);
     }
 
+    private static void eachLine() {
+        CHECKS.sentence("The line that a controller delivers (each, by the controller's own number)");
+        for (int controller = 0; controller <= 1; controller++) {
+            for (int line = 0; line <= 7; line++) {
+                LinePair pair = Pairs.ready();
+                Pairs.move(pair, controller, line, true);
+                CHECKS.same("delivers(" + controller + ")", pair.delivers(controller), line);
+                boolean line2 = controller == Pairs.HELPER;
+                CHECKS.same("the other", pair.delivers(1 - controller),
+                        line2 ? 2 : line == 2 ? 0 : LinePair.NONE);
+            }
+        }
+    }
+
+    private static void none() {
+        CHECKS.sentence("NONE");
+        for (int controller = 0; controller <= 1; controller++) {
+            CHECKS.same("of a new object", new LinePair().delivers(controller), -1);
+            LinePair pair = Pairs.ready();
+            CHECKS.same("with nothing requested", pair.delivers(controller), -1);
+            pair.line(8 * controller, true);
+            pair.write(controller, 1, 1);
+            CHECKS.same("with all masked", pair.delivers(controller), -1);
+            pair.write(controller, 1, 0);
+            CHECKS.same("with line 0", pair.delivers(controller), 0);
+            pair.line(8 * controller, false);
+            CHECKS.same("with line 0 down", pair.delivers(controller), -1);
+            pair.line(8 * controller, true);
+            Pairs.poll(pair, controller);
+            CHECKS.same("with line 0 taken", pair.delivers(controller), -1);
+            pair.line(8 * controller + 7, true);
+            CHECKS.same("with line 7 blocked", pair.delivers(controller), -1);
+        }
+    }
+
     private static void notReady() {
+        CHECKS.sentence("A controller that is not READY delivers nothing.");
         LinePair pair = new LinePair();
         Pairs.raise(pair, 1, 9);
         CHECKS.same("chief", pair.delivers(0), LinePair.NONE);
@@ -46,6 +85,7 @@ public final class Promise6DeliversTest {
     }
 
     private static void blocked() {
+        CHECKS.sentence("if none that BLOCKS has the same or a higher priority");
         LinePair pair = Pairs.ready(Pairs.LEVELS, Pairs.PLAIN, Pairs.EDGES, Pairs.PLAIN);
         Pairs.raise(pair, 3);
         pair.take();
@@ -59,6 +99,7 @@ public final class Promise6DeliversTest {
     }
 
     private static void blockedByTurnedPriorities() {
+        CHECKS.sentence("if none that BLOCKS has the same or a higher priority (turned)");
         LinePair pair = Pairs.ready();
         pair.write(Pairs.CHIEF, 0, Pairs.TURN + 4);
         Pairs.raise(pair, 0);
@@ -72,6 +113,7 @@ public final class Promise6DeliversTest {
     }
 
     private static void specialMask() {
+        CHECKS.sentence("with SPECIAL MASK only those of them that are not masked");
         LinePair pair = Pairs.ready();
         Pairs.raise(pair, 3);
         pair.take();
@@ -88,6 +130,7 @@ public final class Promise6DeliversTest {
     }
 
     private static void specialNesting() {
+        CHECKS.sentence("with SPECIAL NESTING the chief's line 2 does not block itself");
         LinePair pair = Pairs.ready(Pairs.EDGES, Pairs.SPECIAL_NESTING, Pairs.EDGES, Pairs.PLAIN);
         Pairs.raise(pair, 12);
         pair.take();
@@ -100,6 +143,7 @@ public final class Promise6DeliversTest {
     }
 
     private static void specialNestingBlocksTheOthers() {
+        CHECKS.sentence("with SPECIAL NESTING [...] itself (and no other)");
         LinePair pair = Pairs.ready(Pairs.LEVELS, Pairs.SPECIAL_NESTING, Pairs.EDGES, Pairs.PLAIN);
         Pairs.raise(pair, 12);
         pair.take();
@@ -111,6 +155,7 @@ public final class Promise6DeliversTest {
     }
 
     private static void specialNestingOfTheHelperMeansNothing() {
+        CHECKS.sentence("with SPECIAL NESTING the chief's line 2 (not the helper's)");
         LinePair pair = Pairs.ready(Pairs.EDGES, Pairs.PLAIN, Pairs.LEVELS, Pairs.SPECIAL_NESTING);
         Pairs.raise(pair, 10);
         pair.take();
@@ -119,6 +164,7 @@ public final class Promise6DeliversTest {
     }
 
     private static void askingChangesNothing() {
+        CHECKS.sentence("The line that a controller delivers (asking takes nothing)");
         LinePair pair = Pairs.ready();
         Pairs.raise(pair, 9, 4);
         String before = Pairs.stateOf(pair);
@@ -128,10 +174,16 @@ public final class Promise6DeliversTest {
     }
 
     private static void noSuchController() {
+        CHECKS.sentence("NoSuchElementException.");
+        for (int wrong : new int[] {-1, 2, Integer.MIN_VALUE, Integer.MAX_VALUE}) {
+            CHECKS.noSuchElement("delivers(" + wrong + ")", Promise6DeliversTest::delivering,
+                    pair -> pair.delivers(wrong));
+        }
+    }
+
+    private static LinePair delivering() {
         LinePair pair = Pairs.ready();
         Pairs.raise(pair, 9);
-        for (int wrong : new int[] {-1, 2, Integer.MIN_VALUE, Integer.MAX_VALUE}) {
-            CHECKS.noSuchElement(pair, "delivers(" + wrong + ")", () -> pair.delivers(wrong));
-        }
+        return pair;
     }
 }

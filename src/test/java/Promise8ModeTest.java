@@ -6,9 +6,12 @@ public final class Promise8ModeTest {
     }
 
     public static void main(String[] args) {
+        CHECKS.sentence("Whether a controller has a mode: 0 ready, 1 by levels, 2 special mask, 3 special nesting, "
+                + "4 ends at once, 5 turns at once, 6 a poll waits.");
         for (int controller = 0; controller <= 1; controller++) {
             eachAlone(controller);
         }
+        allTogether();
         noSuchControllers();
         noneOfThese();
         CHECKS.end();
@@ -41,6 +44,17 @@ public final class Promise8ModeTest {
         modesAre(pair, controller, "0000000");
     }
 
+    private static void allTogether() {
+        CHECKS.sentence("Whether a controller has a mode (all of them at once)");
+        for (int controller = 0; controller <= 1; controller++) {
+            LinePair pair = new LinePair();
+            Pairs.begin(pair, controller, Pairs.LEVELS, 0xFF);
+            pair.write(controller, 0, 0x6C);
+            pair.write(controller, 0, Pairs.TURNS_AT_ONCE_ON);
+            modesAre(pair, controller, "1111111");
+        }
+    }
+
     private static void modesAre(LinePair pair, int controller, String due) {
         for (int which = 0; which <= 6; which++) {
             CHECKS.same("mode(" + controller + ", " + which + ") of " + due,
@@ -50,18 +64,18 @@ public final class Promise8ModeTest {
     }
 
     private static void noSuchControllers() {
-        LinePair pair = Pairs.ready();
+        CHECKS.sentence("NoSuchElementException");
         for (int wrong : new int[] {-1, 2, Integer.MIN_VALUE, Integer.MAX_VALUE}) {
-            CHECKS.noSuchElement(pair, "mode(" + wrong + ", 0)", () -> pair.mode(wrong, 0));
+            CHECKS.noSuchElement("mode(" + wrong + ", 0)", Pairs::ready, pair -> pair.mode(wrong, 0));
         }
-        CHECKS.noSuchElement(pair, "mode(2, 7)", () -> pair.mode(2, 7));
+        CHECKS.noSuchElement("mode(2, 7)", Pairs::ready, pair -> pair.mode(2, 7));
     }
 
     private static void noneOfThese() {
-        LinePair pair = Pairs.ready();
+        CHECKS.sentence("IllegalArgumentException: none of these.");
         for (int wrong : new int[] {-1, 7, Integer.MIN_VALUE, Integer.MAX_VALUE}) {
-            CHECKS.illegalArgument(pair, "mode(0, " + wrong + ")", () -> pair.mode(0, wrong));
-            CHECKS.illegalArgument(pair, "mode(1, " + wrong + ")", () -> pair.mode(1, wrong));
+            CHECKS.illegalArgument("mode(0, " + wrong + ")", Pairs::ready, pair -> pair.mode(0, wrong));
+            CHECKS.illegalArgument("mode(1, " + wrong + ")", Pairs::ready, pair -> pair.mode(1, wrong));
         }
     }
 }
