@@ -95,15 +95,38 @@ public final class Promise5TakeTest {
     }
 
     private static void nothingDeliveredChangesNothing() {
-        CHECKS.sentence("if it delivers none, base + 7 (and line 7 is not taken)");
-        LinePair pair = Pairs.ready();
-        Pairs.raise(pair, 7, 15);
-        pair.write(Pairs.CHIEF, 1, 255);
+        CHECKS.sentence("if it delivers none, base + 7 (and nothing is taken, line 7 neither)");
+        LinePair requested = Pairs.ready();
+        Pairs.raise(requested, 7, 15);
+        requested.write(Pairs.CHIEF, 1, 255);
+        takeChangesNothing("with 7 requested", requested);
+        LinePair served = Pairs.byLevels();
+        for (int line = 7; line >= 0; line--) {
+            Pairs.serve(served, Pairs.CHIEF, line);
+        }
+        Pairs.raise(served, 7, 12);
+        served.write(Pairs.CHIEF, 0, Pairs.TURN + 3);
+        served.write(Pairs.CHIEF, 0, Pairs.POLL | Pairs.READ_IN_SERVICE);
+        takeChangesNothing("with all in service", served);
+        LinePair atOnce = Pairs.ready(Pairs.LEVELS, Pairs.ENDS_AT_ONCE, Pairs.LEVELS, Pairs.ENDS_AT_ONCE);
+        atOnce.write(Pairs.CHIEF, 0, Pairs.TURNS_AT_ONCE_ON);
+        atOnce.write(Pairs.CHIEF, 0, Pairs.TURN + 3);
+        takeChangesNothing("when it ends and turns at once", atOnce);
+        LinePair awaiting = Pairs.ready();
+        Pairs.raise(awaiting, 7, 15);
+        awaiting.write(Pairs.CHIEF, 0, Pairs.LEVELS);
+        takeChangesNothing("with words awaited", awaiting);
+        takeChangesNothing("before it began", new LinePair());
+    }
+
+    private static void takeChangesNothing(String when, LinePair pair) {
         String before = Pairs.stateOf(pair).split("; count")[0];
-        pair.take();
-        CHECKS.same("the state", Pairs.stateOf(pair).split("; count")[0], before);
-        CHECKS.same("lines taken", pair.count(0), 0);
-        CHECKS.same("answers with nothing", pair.count(1), 1);
+        int taken = pair.count(0);
+        CHECKS.same("the answer " + when, pair.take(), pair.about(0, 5) + 7);
+        CHECKS.same("the state " + when, Pairs.stateOf(pair).split("; count")[0], before);
+        CHECKS.same("lines taken " + when, pair.count(0), taken);
+        CHECKS.same("answers with nothing " + when, pair.count(1), 1);
+        CHECKS.same("lines ended " + when, pair.count(2), 0);
     }
 
     private static void theHelperTakesNothingWithoutLine2() {

@@ -18,6 +18,7 @@ public final class TermsLinesTest {
         line2HasEdgesOfItsOwn();
         requestedByLevels();
         byEdgesAtFirst();
+        requestedByEdgesWhateverElse();
         requestedByEdgesUntilDown();
         requestedByEdgesUntilTaken();
         CHECKS.end();
@@ -218,6 +219,28 @@ public final class TermsLinesTest {
                 pair.write(k / 8, 0, Pairs.EDGES);
                 CHECKS.same("requested behind a beginning, still up", pair.about(k / 8, 0), 0);
                 CHECKS.same("up", pair.about(k / 8, 3), 1 << k % 8);
+            }
+        }
+    }
+
+    private static void requestedByEdgesWhateverElse() {
+        CHECKS.sentence("requested from when it comes up (masked, in service, blocked or with words awaited)");
+        for (int controller = 0; controller <= 1; controller++) {
+            for (int line = 0; line <= 7; line++) {
+                LinePair pair = Pairs.ready();
+                pair.write(controller, 1, 255);
+                Pairs.move(pair, controller, line, true);
+                CHECKS.same("requested when masked", pair.about(controller, 0), 1 << line);
+                pair.write(controller, 1, 0);
+                CHECKS.same("requested when masked no more", pair.about(controller, 0), 1 << line);
+                Pairs.poll(pair, controller);
+                Pairs.move(pair, controller, line, false);
+                Pairs.move(pair, controller, line, true);
+                CHECKS.same("requested when in service", pair.about(controller, 0), 1 << line);
+                pair.write(controller, 0, Pairs.EDGES);
+                Pairs.move(pair, controller, line, false);
+                Pairs.move(pair, controller, line, true);
+                CHECKS.same("requested when words are awaited", pair.about(controller, 0), 1 << line);
             }
         }
     }
