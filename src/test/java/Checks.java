@@ -58,7 +58,8 @@ final class Checks {
         madeForSentence++;
         if (!right) {
             wrong++;
-            System.out.println("\"" + sentence + "\": " + what + " answered " + got + ", due is " + want);
+            String asked = sentence.isEmpty() ? "" : "\"" + sentence + "\": ";
+            System.out.println(asked + what + " answered " + got + ", due is " + want);
         }
     }
 

@@ -64,6 +64,8 @@ public final class FaceTest {
         refuseNames(LinePair.class, faceNames);
         for (Class<?> inside : LinePair.class.getDeclaredClasses()) {
             CHECKS.same(inside.getName() + " is static", Modifier.isStatic(inside.getModifiers()), true);
+            CHECKS.same(inside.getName() + " is seen from outside",
+                    Modifier.isPublic(inside.getModifiers()) || Modifier.isProtected(inside.getModifiers()), false);
             refuseNames(inside, faceNames);
         }
     }
